@@ -6,7 +6,9 @@ import java.util.Random;
 /** Long runs of calls with fixed seeds, each answer beside that of a model written by the terms. */
 public final class ModelTest {
     private static final int RUNS = 300;
-    private static final int CALLS = 512;
+    // What an object answers after 512 calls is free: 452 calls, then three for each entry looked at.
+    private static final int CALLS = 452;
+    private static final int LOOKED_AT = 20;
     private static final String[] NAMES =
             {"behind", "before", "weigh", "find", "sum", "next", "place", "entries"};
 
@@ -131,23 +133,20 @@ public final class ModelTest {
                 return false;
             }
         }
-        return rowsAreAlike(seed, x, model);
-    }
-
-    private static boolean rowsAreAlike(int seed, RankRows x, Model model) {
-        int inFrontFirst = 0;
-        int inFrontSecond = 0;
-        for (int place = 0; place < model.row.size(); place++) {
-            Entry entry = model.row.get(place);
-            if (x.place(entry.number) != place || x.sum(entry.number, 0) != inFrontFirst
-                    || x.sum(entry.number, 1) != inFrontSecond) {
-                System.out.println("seed " + seed + ": entry " + entry.number + " is not as due");
+        for (int i = 0; i < LOOKED_AT && !model.row.isEmpty(); i++) {
+            int number = random.nextInt(model.row.size());
+            if (!entryIsAlike(x, model, number)) {
+                System.out.println("seed " + seed + ": entry " + number + " is not as due");
                 return false;
             }
-            inFrontFirst += entry.weights[0];
-            inFrontSecond += entry.weights[1];
         }
         return true;
+    }
+
+    private static boolean entryIsAlike(RankRows x, Model model, int number) {
+        return x.place(number) == model.placeOf(number)
+                && x.sum(number, 0) == model.sum(number, 0)
+                && x.sum(number, 1) == model.sum(number, 1);
     }
 
     private static int[] arguments(int call, Random random, Model model, int most, int heaviest) {

@@ -1,20 +1,5 @@
-import java.util.NoSuchElementException;
-
 /** What the document promises, promise by promise: ordinary inputs, edges and wrong inputs. */
-public final class PromisesTest {
-    private static final int MIN = Integer.MIN_VALUE;
-    private static final int MAX = Integer.MAX_VALUE;
-
-    private static final Class<?> ARGUMENT = IllegalArgumentException.class;
-    private static final Class<?> ELEMENT = NoSuchElementException.class;
-    private static final Class<?> STATE = IllegalStateException.class;
-
-    private static int wrong = 0;
-
-    private interface Call {
-        int answer();
-    }
-
+public final class PromisesTest extends Due {
     public static void main(String[] args) {
         newObject();
         objectsAreApart();
@@ -38,10 +23,7 @@ public final class PromisesTest {
         placeCountsEntries();
         placeRefuses();
         entriesCounts();
-        System.out.println(wrong == 0 ? "promises: all as due" : "promises: " + wrong + " not as due");
-        if (wrong != 0) {
-            System.exit(1);
-        }
+        end("promises");
     }
 
     // Promise 1
@@ -352,72 +334,5 @@ public final class PromisesTest {
         x.weigh(7, 0, 0);
         due("9: after weigh", x.entries(), 201);
         due("9: full", full().entries(), 4000);
-    }
-
-    // What the tests above stand on
-
-    private static RankRows three() {
-        RankRows x = new RankRows();
-        x.behind(-1, 3, 7, 8);
-        return x;
-    }
-
-    private static RankRows full() {
-        RankRows x = new RankRows();
-        for (int i = 0; i < 20; i++) {
-            x.behind(-1, 200, 1000, 1000);
-        }
-        return x;
-    }
-
-    private static void dueUntouchedThree(String what, RankRows x) {
-        dueRow(what + ": untouched", x, 0, 1, 2);
-        for (int entry = 0; entry < 3; entry++) {
-            dueWeights(what + ": untouched", x, entry, 7, 8);
-        }
-    }
-
-    private static void dueRow(String what, RankRows x, int... row) {
-        due(what + ", entries", x.entries(), row.length);
-        int entry = -1;
-        for (int place = 0; place < row.length; place++) {
-            due(what + ", next(" + entry + ")", x.next(entry), row[place]);
-            due(what + ", place(" + row[place] + ")", x.place(row[place]), place);
-            entry = row[place];
-        }
-        int last = entry;
-        dueThrow(what + ", next(" + last + ")", ELEMENT, () -> x.next(last));
-    }
-
-    private static void dueWeights(String what, RankRows x, int entry, int first, int second) {
-        due(what + ", first weight", weight(x, entry, 0), first);
-        due(what + ", second weight", weight(x, entry, 1), second);
-    }
-
-    private static int weight(RankRows x, int entry, int which) {
-        boolean isLast = x.place(entry) == x.entries() - 1;
-        int end = isLast ? x.sum(-1, which) : x.sum(x.next(entry), which);
-        return end - x.sum(entry, which);
-    }
-
-    private static void due(String what, int got, int want) {
-        if (got != want) {
-            wrong++;
-            System.out.println(what + " answered " + got + ", due is " + want);
-        }
-    }
-
-    private static void dueThrow(String what, Class<?> want, Call call) {
-        String got;
-        try {
-            got = "answered " + call.answer();
-        } catch (RuntimeException e) {
-            if (e.getClass() == want) {
-                return;
-            }
-            got = "threw " + e.getClass().getName();
-        }
-        wrong++;
-        System.out.println(what + " " + got + ", due is " + want.getName());
     }
 }
